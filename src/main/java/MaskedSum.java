@@ -382,8 +382,7 @@ public final class MaskedSum {
 
         /** Leaves the tag of the blocks in its row. */
         void finish() {
-            // What passes the top comes back at the bottom and may have to be carried again, once.
-            carry();
+            // Once more is enough: if anything passes the top again, the limbs above the first are next to 0.
             carry();
             if (reachesPrime()) {
                 // To take 2^130 - 5 off is to add 5 and drop what passes the top.

@@ -39,6 +39,7 @@ final class Model {
     private int[][][] heard = new int[4][8][];
     private int[] names = new int[3];
     private int[] sum;
+    private int lastHeard;
 
     Model() {
         Arrays.setAll(handsets, u -> new Handset());
@@ -177,8 +178,6 @@ final class Model {
         lastHeard = stage < 4 ? 0 : came;
         return stage;
     }
-
-    private int lastHeard;
 
     private int heardNames() {
         int bits = 0;
