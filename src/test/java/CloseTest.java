@@ -9,7 +9,14 @@ public final class CloseTest {
         answersToPublicNumbers();
         answersToBoxes();
         answersToMaskedWords();
+        everySetHeard();
+        answersGoToTheLowestFirst();
+        messagesStayOnTheirWay();
         tooFewShares();
+        tooFewSharesOfASeed();
+        tooFewSharesOfAMaskKey();
+        tooFewPhonesBeforeTooFewShares();
+        sharesOfOthersAreNotNeeded();
         CHECKS.end();
     }
 
@@ -150,6 +157,144 @@ public final class CloseTest {
         CHECKS.due("three shares of three: close()", enough.x.close(), 4);
         for (int k = 0; k < 4; k++) {
             CHECKS.due("then total(" + k + ")", enough.x.total(k), Round.sum(15, k));
+        }
+    }
+
+    /** In each stage, for each set of phones heard: whether it fails, its reason, who is named and answered. */
+    private static void everySetHeard() {
+        for (int n = 3; n <= 5; n++) {
+            for (int t = n / 2 + 1; t <= n; t++) {
+                for (int stage = 0; stage < 4; stage++) {
+                    for (int heard = 0; heard < 1 << n; heard++) {
+                        closedWith(n, t, stage, heard);
+                    }
+                }
+            }
+        }
+    }
+
+    private static void closedWith(int n, int t, int stage, int heard) {
+        Round round = new Round(n, t).playTo(stage).stepAll().deliverOf(heard);
+        String text = n + ", " + t + ", stage " + stage + ", heard " + heard;
+        boolean enough = Integer.bitCount(heard) >= t;
+        CHECKS.due(text + ": close()", round.x.close(), enough ? stage + 1 : 5);
+        CHECKS.due(text + ": count(1)", round.x.count(1), enough ? stage + 1 : 5);
+        CHECKS.due(text + ": the reason", round.x.count(2), enough ? 0 : 1 + stage);
+        for (int i = 0; i < 3; i++) {
+            int names = i < stage ? (1 << n) - 1 : i == stage && enough ? heard : 0;
+            CHECKS.due(text + ": names of stage " + i, round.x.count(3 + i), names);
+        }
+        CHECKS.due(text + ": count(6)", round.x.count(6), enough && stage < 3 ? 0 : heard);
+        int answered = !enough || stage == 3 ? 0 : stage == 2 ? n : Integer.bitCount(heard);
+        CHECKS.due(text + ": answers", round.x.count(0), answered);
+    }
+
+    private static void answersGoToTheLowestFirst() {
+        int[] order = {3, 7, 0, 5, 1, 6, 2, 4};
+        Round round = new Round(8, 5);
+        for (int stage = 0; stage < 3; stage++) {
+            for (int u : order) {
+                round.x.step(u);
+            }
+            round.deliverAll().x.close();
+            for (int u = 0; u < 8; u++) {
+                CHECKS.due("stage " + stage + ": answer " + u, round.x.message(u, 1), u);
+                CHECKS.due("stage " + stage + ": it is the server's", round.x.message(u, 2), 1);
+            }
+            round.deliverAll();
+        }
+    }
+
+    /** What was on its way before a stage is closed is so behind it, and older than the answers. */
+    private static void messagesStayOnTheirWay() {
+        for (int stage = 0; stage < 4; stage++) {
+            for (int arrive = 2; arrive <= 3; arrive++) {
+                Round round = new Round(5, 3).playTo(stage).stepAll();
+                for (int i = 0; i < arrive; i++) {
+                    round.x.deliver(1);
+                }
+                round.x.close();
+                int answers = arrive < 3 || stage == 3 ? 0 : stage == 2 ? 5 : 3;
+                CHECKS.due("stage " + stage + ": count(0)", round.x.count(0), 5 - arrive + answers);
+                CHECKS.due("the oldest is phone 0's", round.x.message(0, 1), 0);
+                CHECKS.due("of this stage", round.x.message(0, 0), stage);
+                CHECKS.due("no answer", round.x.message(0, 2), 0);
+                CHECKS.due("the next is phone 4's", round.x.message(4 - arrive, 1), 4);
+                CHECKS.due("no answer", round.x.message(4 - arrive, 2), 0);
+            }
+        }
+    }
+
+    /** These phones say that they hadn't the share of phone u. */
+    private static void hadNot(Round round, int u, int... phones) {
+        for (int v : phones) {
+            round.x.alter(v, 0, 1 << u);
+        }
+    }
+
+    private static void tooFewSharesOfASeed() {
+        for (int u = 0; u < 5; u++) {
+            Round enough = new Round(5, 3).playTo(3).stepAll();
+            hadNot(enough, u, 1, 3);
+            CHECKS.due("three shares of phone " + u, enough.deliverAll().x.close(), 4);
+            CHECKS.due("the reason", enough.x.count(2), 0);
+            Round few = new Round(5, 3).playTo(3).stepAll();
+            hadNot(few, u, 1, 3, 4);
+            CHECKS.due("two shares of phone " + u, few.deliverAll().x.close(), 5);
+            CHECKS.due("the reason", few.x.count(2), 5);
+            CHECKS.badState("then total(0)", () -> few.x.total(0));
+            CHECKS.badState("then close()", () -> few.x.close());
+        }
+    }
+
+    private static Round withoutWordsOf(int u) {
+        Round round = new Round(5, 3).playTo(2).stepAll().deliverOf(31 & ~(1 << u));
+        round.x.close();
+        return round.deliverAll().stepAll();
+    }
+
+    private static void tooFewSharesOfAMaskKey() {
+        for (int u = 0; u < 5; u++) {
+            Round enough = withoutWordsOf(u);
+            hadNot(enough, u, 0, 4);
+            CHECKS.due("three shares of phone " + u, enough.deliverAll().x.close(), 4);
+            for (int k = 0; k < 4; k++) {
+                CHECKS.due("total(" + k + ")", enough.x.total(k), Round.sum(31 & ~(1 << u), k));
+            }
+            Round few = withoutWordsOf(u);
+            hadNot(few, u, 0, 4, 2);
+            CHECKS.due("two shares of phone " + u, few.deliverAll().x.close(), 5);
+            CHECKS.due("the reason", few.x.count(2), 5);
+        }
+    }
+
+    /** With less than t phones heard the reason is that, whatever shares they had. */
+    private static void tooFewPhonesBeforeTooFewShares() {
+        Round round = new Round(5, 3).playTo(3).stepAll();
+        hadNot(round, 2, 0, 1, 2, 3, 4);
+        round.deliverOf(0b00011);
+        CHECKS.due("close()", round.x.close(), 5);
+        CHECKS.due("the reason", round.x.count(2), 4);
+        Round enough = new Round(5, 3).playTo(3).stepAll();
+        hadNot(enough, 2, 0, 1, 2, 3, 4);
+        enough.deliverOf(0b00111);
+        CHECKS.due("close()", enough.x.close(), 5);
+        CHECKS.due("the reason", enough.x.count(2), 5);
+    }
+
+    /** Phone 1 fell out in stage 1: nothing of it is joined, and what is said of it or of no phone is nothing. */
+    private static void sharesOfOthersAreNotNeeded() {
+        Round round = new Round(5, 3).playTo(1).stepAll().deliverOf(0b11101);
+        round.x.close();
+        round.deliverAll().playStage().deliverAll().stepAll();
+        for (int k = 0; k < 4; k++) {
+            CHECKS.due("no share of phone 1", round.word(k, 0), 0b11101);
+            round.x.alter(k, 0, 0xffffff02);
+            round.x.alter(k, 3, 12345);
+        }
+        CHECKS.due("close()", round.deliverAll().x.close(), 4);
+        for (int k = 0; k < 4; k++) {
+            CHECKS.due("total(" + k + ")", round.x.total(k), Round.sum(0b11101, k));
         }
     }
 }

@@ -8,10 +8,12 @@ import java.util.TreeSet;
 /** The public face is the document's and no more (LANGUAGE.md, rule 1). */
 public final class FaceTest {
     private static final Checks CHECKS = new Checks();
+    /** Each method with what it may throw: a bad argument (A), a bad state (S). */
     private static final String[] FACE = {
-        "void start(int,int)", "void secret(int,int,int,int)", "void input(int,int,int)", "boolean step(int)",
-        "int close()", "boolean deliver(int)", "void lose(int)", "void alter(int,int,int)", "int message(int,int)",
-        "int total(int)", "int phone(int,int)", "int count(int)", "int stream(int,int,int,int,int)"};
+        "void start(int,int) A", "void secret(int,int,int,int) A S", "void input(int,int,int) A S",
+        "boolean step(int) A S", "int close() S", "boolean deliver(int) A", "void lose(int) A",
+        "void alter(int,int,int) A", "int message(int,int) A", "int total(int) A S", "int phone(int,int) A",
+        "int count(int)", "int stream(int,int,int,int,int) A"};
 
     public static void main(String[] args) {
         CHECKS.due("public and final", MaskedSum.class.getModifiers() == (Modifier.PUBLIC | Modifier.FINAL), true);
@@ -53,6 +55,10 @@ public final class FaceTest {
         for (Class<?> parameter : method.getParameterTypes()) {
             text.append(text.charAt(text.length() - 1) == '(' ? "" : ",").append(parameter);
         }
-        return text.append(")").toString();
+        text.append(")");
+        for (Class<?> thrown : method.getExceptionTypes()) {
+            text.append(thrown == IllegalArgumentException.class ? " A" : thrown == IllegalStateException.class ? " S" : " ?");
+        }
+        return text.toString();
     }
 }

@@ -1,16 +1,10 @@
-/** Promises 7 to 10: deliver, lose, alter, message. */
+/** Promises 7 to 10: deliver, lose, alter, message; when what arrives is taken, AnswersTest and HearingTest ask. */
 public final class MailTest {
     private static final Checks CHECKS = new Checks();
 
     public static void main(String[] args) {
         noSuchMessage();
         orderAndRemoval();
-        whenTheServerHears();
-        whenAPhoneTakes();
-        whenAPhoneLags();
-        namesThatAPhoneTakes();
-        namesOfStageOne();
-        namesOfStageTwo();
         afterTheRound();
         alterations();
         heads();
@@ -67,135 +61,6 @@ public final class MailTest {
         CHECKS.due("close()", x.close(), 1);
         senders("answers", x, 0, 1, 4, 5);
         CHECKS.due("a lost message isn't sent again: step(2)", x.step(2), false);
-    }
-
-    private static void whenTheServerHears() {
-        Round round = new Round(4, 3).stepAll();
-        MaskedSum x = round.x;
-        for (int i = 0; i < 3; i++) {
-            x.deliver(0);
-        }
-        x.close();
-        CHECKS.due("a message of stage 0 in stage 1: deliver(0)", x.deliver(0), false);
-        CHECKS.due("it is gone", x.count(0), 3);
-        CHECKS.due("it isn't heard", x.count(6), 0);
-        round.deliverAll().stepAll().deliverOf(0b0111);
-        x.close();
-        round.deliverAll();
-        CHECKS.due("names of stage 1", x.count(4), 0b0111);
-        round.stepAll().deliverOf(0b0011);
-        CHECKS.due("two of three: close()", x.close(), 5);
-        latecomers();
-    }
-
-    /** Phone 3 was named in stage 1 but not heard in stage 2: it is heard in stage 3. */
-    private static void latecomers() {
-        Round round = new Round(4, 3).playTo(2).stepAll();
-        MaskedSum x = round.x;
-        for (int i = 0; i < 3; i++) {
-            x.deliver(0);
-        }
-        x.close();
-        CHECKS.due("masked words too late: deliver(0)", x.deliver(0), false);
-        round.deliverAll();
-        CHECKS.due("it goes on: step(3)", x.step(3), true);
-        CHECKS.due("its shares are heard: deliver(0)", x.deliver(0), true);
-        CHECKS.due("heard", x.count(6), 0b1000);
-    }
-
-    private static void whenAPhoneTakes() {
-        Round round = new Round(3, 2).playTo(1).stepAll().deliverAll();
-        MaskedSum x = round.x;
-        x.close();
-        // Phone 2 doesn't get its boxes before the masked words of others are in.
-        x.deliver(0);
-        x.deliver(0);
-        x.step(0);
-        x.step(1);
-        x.deliver(1);
-        x.deliver(1);
-        x.close();
-        CHECKS.due("answers to all of stage 1", x.count(0), 4);
-        CHECKS.due("the last one's stage", x.message(3, 0), 2);
-        CHECKS.due("the last one's phone", x.message(3, 1), 2);
-        CHECKS.due("an answer to what it hasn't sent: deliver(3)", x.deliver(3), false);
-        CHECKS.due("phone(2, 1)", x.phone(2, 1), 1);
-        CHECKS.due("the older answer is still good: deliver(0)", x.deliver(0), true);
-        CHECKS.due("phone(2, 1)", x.phone(2, 1), 2);
-        CHECKS.due("step(2)", x.step(2), true);
-        CHECKS.due("its masked words come too late", x.deliver(2), false);
-        CHECKS.due("no answer any more: step(2)", x.step(2), false);
-        CHECKS.due("deliver(0)", x.deliver(0), true);
-        CHECKS.due("phone(0, 1)", x.phone(0, 1), 3);
-    }
-
-    /** Phone 2 has got its boxes but has not sent its masked words: it takes no answer to them. */
-    private static void whenAPhoneLags() {
-        Round round = new Round(3, 2).playTo(2);
-        MaskedSum x = round.x;
-        x.step(0);
-        x.step(1);
-        round.deliverAll();
-        CHECKS.due("close()", x.close(), 3);
-        CHECKS.due("phone(2, 0)", x.phone(2, 0), 2);
-        CHECKS.due("phone(2, 1)", x.phone(2, 1), 2);
-        CHECKS.due("an answer to words not sent: deliver(2)", x.deliver(2), false);
-        CHECKS.due("phone(2, 1)", x.phone(2, 1), 2);
-        CHECKS.due("step(2)", x.step(2), true);
-        CHECKS.due("it sends its masked words", x.message(2, 0), 2);
-        CHECKS.due("too late: deliver(2)", x.deliver(2), false);
-        CHECKS.due("step(2)", x.step(2), false);
-    }
-
-    /** Whether phone 1 takes an answer of a stage whose names were altered so. */
-    private static boolean takes(int stage, int earlier, int names) {
-        Round round = new Round(5, 3).playTo(Math.max(0, stage - 1));
-        if (stage > 0) {
-            round.playStage();
-            round.x.alter(1, 0, 31 ^ earlier);
-            round.deliverAll();
-        }
-        round.playStage();
-        int at = 0;
-        while (round.x.message(at, 1) != 1) {
-            at++;
-        }
-        round.x.alter(at, 0, round.word(at, 0) ^ names);
-        int before = round.x.phone(1, 1);
-        boolean taken = round.x.deliver(at);
-        CHECKS.due("phone(1, 1) behind it", round.x.phone(1, 1), taken ? before + 1 : before);
-        CHECKS.due("step(1) behind it", round.x.step(1), taken);
-        return taken;
-    }
-
-    private static void namesThatAPhoneTakes() {
-        CHECKS.due("all", takes(0, 0, 31), true);
-        CHECKS.due("just enough", takes(0, 0, 0b00111), true);
-        CHECKS.due("too few", takes(0, 0, 0b00011), false);
-        CHECKS.due("none", takes(0, 0, 0), false);
-        CHECKS.due("without itself", takes(0, 0, 0b11101), false);
-        CHECKS.due("one that isn't of the round", takes(0, 0, 0b111111), false);
-        CHECKS.due("a high bit", takes(0, 0, 31 | 1 << 31), false);
-        CHECKS.due("a bit above phones", takes(0, 0, 31 | 1 << 8), false);
-    }
-
-    private static void namesOfStageOne() {
-        CHECKS.due("all", takes(1, 31, 31), true);
-        CHECKS.due("just those of stage 0", takes(1, 0b01111, 0b01111), true);
-        CHECKS.due("some of those of stage 0", takes(1, 0b01111, 0b01110), true);
-        CHECKS.due("one that wasn't in stage 0", takes(1, 0b01111, 0b11111), false);
-        CHECKS.due("another than in stage 0", takes(1, 0b01111, 0b10111), false);
-        CHECKS.due("too few", takes(1, 31, 0b00110), false);
-        CHECKS.due("without itself", takes(1, 31, 0b11101), false);
-    }
-
-    private static void namesOfStageTwo() {
-        CHECKS.due("all", takes(2, 31, 31), true);
-        CHECKS.due("without itself", takes(2, 31, 0b11101), true);
-        CHECKS.due("some of those of stage 1", takes(2, 0b01111, 0b01101), true);
-        CHECKS.due("one that wasn't in stage 1", takes(2, 0b01111, 0b11101), false);
-        CHECKS.due("too few", takes(2, 31, 0b10001), false);
-        CHECKS.due("one that isn't of the round", takes(2, 31, 0b111111), false);
     }
 
     /** No stage is open, so that the server hears nobody; messages can still come, go and be looked at. */

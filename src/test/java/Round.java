@@ -57,10 +57,14 @@ final class Round {
     }
 
     Round deliverAll() {
+        deliverAll(x);
+        return this;
+    }
+
+    private static void deliverAll(MaskedSum x) {
         for (int left = x.count(0); left > 0; left--) {
             x.deliver(0);
         }
-        return this;
     }
 
     /** Everyone sends, all arrives, the stage is closed; the answers are on their way. */
@@ -77,6 +81,18 @@ final class Round {
         return this;
     }
 
+    /** As playTo, on an object of the caller's own, with n phones. */
+    static void play(MaskedSum x, int n, int stages) {
+        for (int stage = 0; stage < stages; stage++) {
+            for (int u = 0; u < n; u++) {
+                x.step(u);
+            }
+            deliverAll(x);
+            x.close();
+            deliverAll(x);
+        }
+    }
+
     /** Only the messages of the phones named arrive, others are lost. */
     Round deliverOf(int names) {
         for (int left = x.count(0); left > 0; left--) {
@@ -86,6 +102,22 @@ final class Round {
                 x.lose(0);
             }
         }
+        return this;
+    }
+
+    /** The place of the oldest of the server's answers to phone u that are on their way. */
+    int answerTo(int u) {
+        for (int k = 0; k < x.count(0); k++) {
+            if (x.message(k, 1) == u && x.message(k, 2) == 1) {
+                return k;
+            }
+        }
+        throw new AssertionError("no answer to phone " + u);
+    }
+
+    /** Word i of the k-th message becomes this one. */
+    Round set(int k, int i, int word) {
+        x.alter(k, i, word(k, i) ^ word);
         return this;
     }
 

@@ -10,6 +10,9 @@ public final class SettingsTest {
         whenSecretsMayBeSet();
         whenInputsMayBeSet();
         eachInputWordCounts();
+        phonesOutsideTheRound();
+        setAfterTheRound();
+        lastSettingCounts();
         CHECKS.end();
     }
 
@@ -94,7 +97,7 @@ public final class SettingsTest {
                 MaskedSum x = new MaskedSum();
                 x.input(u, k, -5);
                 x.start(3, 2);
-                play(x);
+                Round.play(x, 3, 4);
                 for (int i = 0; i < 4; i++) {
                     CHECKS.due("input(" + u + ", " + k + ", -5), total(" + i + ")", x.total(i), i == k ? -5 : 0);
                 }
@@ -102,18 +105,70 @@ public final class SettingsTest {
         }
     }
 
-    private static void play(MaskedSum x) {
-        for (int stage = 0; stage < 4; stage++) {
-            for (int u = 0; u < 3; u++) {
-                x.step(u);
-            }
-            for (int i = 0; i < 3; i++) {
-                x.deliver(0);
-            }
-            x.close();
-            while (x.count(0) > 0) {
-                x.deliver(0);
-            }
+    private static void shows(String text, MaskedSum x, int k, int low, int high) {
+        BigInteger number = Reference.publicNumber(Reference.number(low, high));
+        CHECKS.due(text + ", low", x.message(k, 4), Reference.low(number));
+        CHECKS.due(text + ", high", x.message(k, 5), Reference.high(number));
+    }
+
+    /** What is set of phones 3 to 7 while a round of three is open counts in the next one. */
+    private static void phonesOutsideTheRound() {
+        Round round = new Round(3, 2).playTo(2).stepAll();
+        for (int u = 3; u < 8; u++) {
+            round.x.secret(u, 0, 40 + u, -u);
+            round.x.input(u, 1, 100 * u);
         }
+        round.x.start(8, 5);
+        for (int u = 0; u < 8; u++) {
+            round.x.step(u);
+        }
+        for (int u = 3; u < 8; u++) {
+            shows("phone " + u, round.x, u, 40 + u, -u);
+        }
+        round.deliverAll().x.close();
+        round.deliverAll();
+        for (int stage = 1; stage < 4; stage++) {
+            for (int u = 0; u < 8; u++) {
+                round.x.step(u);
+            }
+            round.deliverAll().x.close();
+            round.deliverAll();
+        }
+        CHECKS.due("total(1)", round.x.total(1), Round.sum(7, 1) + 100 * (3 + 4 + 5 + 6 + 7));
+    }
+
+    /** A round that has failed or ended is not open: its phones may be set anew, which counts in the next. */
+    private static void setAfterTheRound() {
+        Round ended = new Round(3, 2).playTo(4);
+        Round failed = new Round(3, 2).playTo(2).stepAll();
+        failed.x.close();
+        for (Round round : new Round[] {ended, failed}) {
+            for (int u = 0; u < 3; u++) {
+                round.x.secret(u, 0, 9 + u, 8);
+                round.x.input(u, 2, 7 - u);
+            }
+            round.x.start(3, 2);
+            round.stepAll();
+            for (int u = 0; u < 3; u++) {
+                shows("phone " + u, round.x, u, 9 + u, 8);
+            }
+            round.deliverAll().x.close();
+            round.deliverAll().playStage().deliverAll().playStage().deliverAll().playStage();
+            CHECKS.due("total(2)", round.x.total(2), 7 + 6 + 5);
+        }
+    }
+
+    private static void lastSettingCounts() {
+        Round round = new Round(3, 2);
+        round.x.secret(1, 0, 5, 5);
+        round.x.secret(1, 0, -1, -1);
+        round.x.secret(1, 0, 6, 7);
+        round.x.input(1, 3, 5);
+        round.x.input(1, 3, 0);
+        round.stepAll();
+        shows("set again", round.x, 1, 6, 7);
+        round.deliverAll().x.close();
+        round.deliverAll().playStage().deliverAll().playStage().deliverAll().playStage();
+        CHECKS.due("total(3)", round.x.total(3), Round.inputWord(0, 3) + Round.inputWord(2, 3));
     }
 }

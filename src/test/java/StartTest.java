@@ -8,6 +8,10 @@ public final class StartTest {
         goodAndBadSizes();
         startsAnew();
         startsSmaller();
+        startsInEveryState();
+        earlierBoxesAreGone();
+        earlierSharesAreGone();
+        earlierAnswersAreGone();
         badStartChangesNothing();
         CHECKS.end();
     }
@@ -39,18 +43,7 @@ public final class StartTest {
         for (int i = 0; i < 4; i++) {
             CHECKS.due("public numbers of 0, word " + i, x.message(0, 4 + i), ones[i]);
         }
-        for (int stage = 0; stage < 4; stage++) {
-            for (int u = 0; u < 3; u++) {
-                x.step(u);
-            }
-            while (x.count(0) > 0) {
-                x.deliver(0);
-            }
-            x.close();
-            while (x.count(0) > 0) {
-                x.deliver(0);
-            }
-        }
+        Round.play(x, 3, 4);
         for (int k = 0; k < 4; k++) {
             CHECKS.due("total of inputs 0, word " + k, x.total(k), 0);
         }
@@ -144,6 +137,67 @@ public final class StartTest {
             for (int i = from; i < x.message(k, 3); i++) {
                 CHECKS.due("a smaller round: message " + k + ", word " + i, x.message(k, 4 + i), 0);
             }
+        }
+    }
+
+    /** Started at any time, a round is as a new object's with the same secrets and inputs. */
+    private static void startsInEveryState() {
+        String fresh = Snapshot.of(new Round(6, 4).x);
+        String sent = Snapshot.of(new Round(6, 4).stepAll().x);
+        for (int stage = 0; stage < 4; stage++) {
+            Round[] rounds = {new Round(8, 5).playTo(stage), new Round(8, 5).playTo(stage).stepAll(),
+                new Round(8, 5).playTo(stage).playStage(), new Round(8, 5).playTo(stage).stepAll().deliverOf(0b1011)};
+            rounds[3].x.close();
+            for (Round round : rounds) {
+                round.x.start(6, 4);
+                CHECKS.same("started anew", Snapshot.of(round.x), fresh);
+                for (int u = 0; u < 6; u++) {
+                    round.x.step(u);
+                }
+                CHECKS.same("the same secrets", Snapshot.of(round.x), sent);
+            }
+        }
+    }
+
+    /** Phone 2's boxes came in the round before, but not in this one. */
+    private static void earlierBoxesAreGone() {
+        Round round = new Round(4, 3).playTo(4);
+        round.x.start(4, 3);
+        round.playTo(1).stepAll().deliverOf(0b1011);
+        round.x.close();
+        for (int k = 0; k < 3; k++) {
+            for (int i = 0; i < 8; i++) {
+                CHECKS.due("box of phone 2, word " + i, round.word(k, 1 + 16 + i), 0);
+            }
+        }
+    }
+
+    /** Shares of phones 0 and 1 came in the round before, but not in this one, which has other seeds. */
+    private static void earlierSharesAreGone() {
+        Round round = new Round(5, 3).playTo(4);
+        for (int u = 0; u < 5; u++) {
+            round.x.secret(u, 2, u, u);
+        }
+        round.x.start(5, 3);
+        round.playTo(3).stepAll().deliverOf(0b11100);
+        CHECKS.due("close()", round.x.close(), 4);
+        for (int k = 0; k < 4; k++) {
+            CHECKS.due("total(" + k + ")", round.x.total(k), Round.sum(31, k));
+        }
+        Round few = new Round(5, 3).playTo(4);
+        few.x.start(5, 3);
+        few.playTo(3).stepAll().deliverOf(0b11000);
+        CHECKS.due("two of three: close()", few.x.close(), 5);
+    }
+
+    /** Answers taken in the round before are none in this one. */
+    private static void earlierAnswersAreGone() {
+        Round round = new Round(4, 3).playTo(3);
+        round.x.start(4, 3);
+        for (int u = 0; u < 4; u++) {
+            CHECKS.due("step(" + u + ")", round.x.step(u), true);
+            CHECKS.due("it begins with its public numbers", round.x.message(u, 0), 0);
+            CHECKS.due("and waits: step(" + u + ")", round.x.step(u), false);
         }
     }
 

@@ -13,6 +13,8 @@ public final class StepTest {
         maskedWords();
         shares();
         sharesWithoutOneBox();
+        boxInAnotherOnesPlace();
+        boxByAnotherNumber();
         whatItWasToldCounts();
         CHECKS.end();
     }
@@ -199,6 +201,31 @@ public final class StepTest {
         own.deliverAll().playStage().deliverAll();
         own.x.step(0);
         words("its own shares it knows", own.x, 0, givenBy(0, 3, 15, 15));
+    }
+
+    /** All agree on 1, but a box has its sender's number in its nonce. */
+    private static void boxInAnotherOnesPlace() {
+        Round round = new Round(4, 3);
+        for (int u = 0; u < 4; u++) {
+            round.x.secret(u, 1, 0, 0);
+        }
+        round.playTo(1).playStage();
+        for (int i = 0; i < 8; i++) {
+            round.set(0, 1 + 16 + i, round.word(0, 1 + 8 + i));
+        }
+        round.deliverAll().playStage().deliverAll();
+        round.x.step(0);
+        words("box of phone 1 in the place of 2's", round.x, 0, givenBy(0, 3, 0b1011, 15));
+    }
+
+    /** Phone 0 is told another public number of phone 2's box key: neither can open the other one's box. */
+    private static void boxByAnotherNumber() {
+        Round round = new Round(4, 3).playStage();
+        round.x.alter(0, 1 + 4 * 2 + 2, 1);
+        round.deliverAll().playStage().deliverAll().playStage().deliverAll().stepAll();
+        words("phone 0", round.x, 0, givenBy(0, 3, 0b1011, 15));
+        words("phone 1", round.x, 1, givenBy(1, 3, 0b1111, 15));
+        words("phone 2", round.x, 2, givenBy(2, 3, 0b1110, 15));
     }
 
     /** A phone goes by the names and numbers in the answers that it took, altered ones too. */

@@ -1,3 +1,7 @@
+import java.math.BigInteger;
+import java.util.ArrayList;
+import java.util.List;
+
 /** Promise 11, and what a round comes to when phones fall out. */
 public final class TotalTest {
     private static final Checks CHECKS = new Checks();
@@ -8,6 +12,10 @@ public final class TotalTest {
         thoseWhoseWordsCame();
         lowestHoldersCount();
         badSharesSpoilIt();
+        aShareSaidToBeHadIsTaken();
+        namesAtTheServerCount();
+        publicNumbersAsTheyCameCount();
+        nothingIsLeftIfAllWordsCame();
         CHECKS.end();
     }
 
@@ -98,5 +106,94 @@ public final class TotalTest {
             same &= round.x.total(k) == Round.sum(31, k);
         }
         CHECKS.due("a wrong share that is used leaves the sum", same, false);
+    }
+
+    private static BigInteger seedShare(int u, int t, int v) {
+        return Reference.share(Round.secret(u, 2), Round.secret(u, 2), 1, u, t, v);
+    }
+
+    private static void totals(String text, MaskedSum x, int names, int[] more) {
+        for (int k = 0; k < 4; k++) {
+            CHECKS.due(text + ": total(" + k + ")", x.total(k), Round.sum(names, k) + more[k]);
+        }
+    }
+
+    /** Phone 0 can't open the box of phone 2, so its share is 0; if it is said to have had it, 0 is joined. */
+    private static void aShareSaidToBeHadIsTaken() {
+        Round round = new Round(4, 3).playTo(1).playStage();
+        round.x.alter(0, 1 + 16, 1);
+        round.deliverAll().playStage().deliverAll().stepAll();
+        round.x.alter(0, 0, 0b0100);
+        CHECKS.due("close()", round.deliverAll().x.close(), 4);
+        List<BigInteger> shares = new ArrayList<>(List.of(BigInteger.ZERO, seedShare(2, 3, 1), seedShare(2, 3, 2)));
+        int[] off = Reference.stream(Reference.join(List.of(0, 1, 2), shares), 0, 2, 4);
+        int[] more = Reference.stream(Round.secret(2, 2), 0, 2, 4);
+        for (int k = 0; k < 4; k++) {
+            more[k] -= off[k];
+        }
+        totals("a share of 0", round.x, 15, more);
+    }
+
+    /** Phone 0 is told that phone 3's words didn't come, and gives of its mask key: the server takes it for a seed's. */
+    private static void namesAtTheServerCount() {
+        Round round = new Round(4, 3).playTo(2).playStage();
+        round.x.alter(0, 0, 0b1000);
+        round.deliverAll().stepAll();
+        CHECKS.due("phone(0, 3)", round.x.phone(0, 3), 0b1000);
+        CHECKS.due("close()", round.deliverAll().x.close(), 4);
+        BigInteger wrong = Reference.share(Round.secret(3, 0), Round.secret(3, 2), 0, 3, 3, 0);
+        List<BigInteger> shares = new ArrayList<>(List.of(wrong, seedShare(3, 3, 1), seedShare(3, 3, 2)));
+        int[] off = Reference.stream(Reference.join(List.of(0, 1, 2), shares), 0, 3, 4);
+        int[] more = Reference.stream(Round.secret(3, 2), 0, 3, 4);
+        for (int k = 0; k < 4; k++) {
+            more[k] -= off[k];
+        }
+        totals("another secret's share", round.x, 15, more);
+    }
+
+    private static int[] pairwise(BigInteger shown, BigInteger maskKey) {
+        return Reference.stream(Reference.power(shown, maskKey), 1, 0, 4);
+    }
+
+    /** Phone 0's public mask number is altered on its way to the server; phone 2 falls out behind its boxes. */
+    private static void publicNumbersAsTheyCameCount() {
+        Round round = new Round(3, 2).stepAll();
+        round.x.alter(0, 0, 6);
+        round.deliverAll().x.close();
+        round.deliverAll().playStage().deliverAll().stepAll().deliverOf(0b011);
+        round.x.close();
+        CHECKS.due("close()", round.deliverAll().playStage().x.count(1), 4);
+        BigInteger own = Reference.publicNumber(Round.secret(0, 0));
+        BigInteger came = Reference.number(Reference.low(own) ^ 6, Reference.high(own));
+        int[] ofZero = pairwise(Reference.publicNumber(Round.secret(1, 0)), Round.secret(0, 0));
+        int[] ofOne = pairwise(came, Round.secret(1, 0));
+        int[] withTwo = pairwise(own, Round.secret(2, 0));
+        int[] atServer = pairwise(came, Round.secret(2, 0));
+        int[] more = new int[4];
+        for (int k = 0; k < 4; k++) {
+            more[k] = ofZero[k] - ofOne[k] + withTwo[k] - atServer[k];
+        }
+        totals("an altered public number", round.x, 0b011, more);
+    }
+
+    /** With all words there the mask keys play no part, even if public numbers came altered to the server alone. */
+    private static void nothingIsLeftIfAllWordsCame() {
+        Round round = new Round(3, 2).stepAll();
+        int[] low = new int[3];
+        for (int u = 0; u < 3; u++) {
+            low[u] = round.word(u, 0);
+            round.x.alter(u, 0, 5);
+        }
+        round.deliverAll().x.close();
+        for (int k = 0; k < 3; k++) {
+            for (int u = 0; u < 3; u++) {
+                round.set(k, 1 + 4 * u, low[u]);
+            }
+        }
+        round.deliverAll();
+        for (int stage = 1; stage < 4; stage++) {
+            round.playStage().deliverAll();
+        }
+        sums("altered for the server alone", round.x, 7);
     }
 }
